@@ -10,6 +10,7 @@ public final class NewObjectTest {
         }
         isEmpty();
         hasItsSettings();
+        driesInEachZone();
         allIsFuelAtFirst();
         Check.end();
     }
@@ -57,11 +58,25 @@ public final class NewObjectTest {
         Check.bed("the move is 100", x, 0, 900, 0, 0);
         Check.bed("the move is 100", x, 1, 100, 0, 0);
         Check.same("the boiler is 500: gas(0)", x.gas(0), 500000);
-        x.burner(0, 0);
-        x.run(1);
-        // 90 of 900 go on to zone 1, which gives 10 of its 100; heat 500000 would dry 200.
-        Check.bed("drying is 200 in zone 0", x, 0, 810 - 162, 0, 0);
-        Check.bed("and in zone 1", x, 1, 180 - 36, 0, 0);
+    }
+
+    private static void driesInEachZone() {
+        GrateLayers x = new GrateLayers(6);
+        x.set(1000, 0);
+        x.burner(1000000000, 1000000);
+        x.run(20);
+        x.kind(0, 1000, 0);
+        x.bunker(0, 0, 5000);
+        for (int g = 0; g < 5; g++) {
+            x.grab(0);
+        }
+        int[] driedDue = {1000, 800, 640, 512, 409, 327};
+        int water = 5000;
+        for (int zone = 0; zone < 6; zone++) {
+            x.run(1);
+            water -= driedDue[zone];
+            Check.bed("drying is 200", x, zone, water, 0, 0);
+        }
     }
 
     private static void allIsFuelAtFirst() {
